@@ -1,5 +1,6 @@
 /** A ratchet wheel that is driven by levers, with its runs, exact chances and exact averages. */
 public final class FlashRatchet {
+    /** There is nothing to return. */
     public static final int NONE = -1;
 
     private static final int LEVERS = 3;
@@ -11,7 +12,6 @@ public final class FlashRatchet {
     private static final int SEEDS_OF_DRAW = 100;
     private static final int FIRST_PROGRAM = 1;
     private static final int PROGRAM_NUMBERS = 256;
-    private static final int LONGEST_PROGRAM = 4;
     private static final int LONGEST_BEST = 3;
     private static final int MOST_TICKS_AT_ONCE = 500;
     private static final int MOST_TICKS = 1000000;
@@ -336,8 +336,8 @@ public final class FlashRatchet {
         if (number <= 0 || number >= PROGRAM_NUMBERS) {
             return false;
         }
-        for (int rest = number; rest > 0; rest = rest >> 2) {
-            if ((rest & 3) == 0) {
+        for (int index = 0; index < lengthOf(number); index++) {
+            if ((number >> (2 * index) & 3) == 0) {
                 return false;
             }
         }
@@ -345,11 +345,13 @@ public final class FlashRatchet {
     }
 
     private static int lengthOf(int program) {
-        int length = 1;
-        while (length < LONGEST_PROGRAM && program >= 1 << (2 * length)) {
-            length++;
+        if (program < 4) {
+            return 1;
         }
-        return length;
+        if (program < 16) {
+            return 2;
+        }
+        return program < 64 ? 3 : 4;
     }
 
     private static int leverAt(int program, int index) {
@@ -389,8 +391,8 @@ public final class FlashRatchet {
         spread.pass(wheel, program, present, ticks);
     }
 
-    private boolean isLosing(int program) {
-        rounds.study(wheel, program);
+    private boolean isLosing(int number) {
+        rounds.study(wheel, number);
         rounds.takeAverage();
         return rounds.result.numerator < 0;
     }
