@@ -714,7 +714,7 @@ public final class FlashRatchet {
         }
     }
 
-    /** Reads a text character by character. */
+    /** Reads a text character by character; what it knows of an item stands from the item's name on. */
     private static final class Reader {
         private static final int AT_NAME = 0;
         private static final int AT_COLON = 1;
@@ -737,13 +737,7 @@ public final class FlashRatchet {
         void open(int positionsOfWheel) {
             positions = positionsOfWheel;
             stage = AT_NAME;
-            isOfProgram = false;
             items = 0;
-            lever = 0;
-            pairs = 0;
-            back = 0;
-            forward = 0;
-            program = 0;
         }
 
         boolean hasPair() {
@@ -777,6 +771,8 @@ public final class FlashRatchet {
             }
             isOfProgram = code == 'P';
             lever = code - 'A';
+            pairs = 0;
+            program = 0;
             items++;
             stage = AT_COLON;
             return true;
@@ -786,8 +782,6 @@ public final class FlashRatchet {
             if (code != ':') {
                 return false;
             }
-            pairs = 0;
-            program = 0;
             stage = isOfProgram ? AT_LETTER : AT_BACK;
             return true;
         }

@@ -254,6 +254,11 @@ public final class AverageTest {
         Check.due("standing", wheel.paradox(), 0);
         Check.load(wheel, "A:10,10,10;B:20,20,20;C:30,30,30");
         Check.due("all lose", wheel.paradox(), 0);
+        FlashRatchet even = wheelOf(2, "A:12,72;B:28,91");
+        even.gear(2, false);
+        Check.due("A loses, B loses", even.average(1, 0) < 0 && even.average(2, 0) < 0 ? 1 : 0, 1);
+        dueBest("together they only break even", even, 3, 6, 0, 1);
+        Check.due("no gain, no paradox", even.paradox(), 0);
         for (int lever = 0; lever < 3; lever++) {
             wheel.gear(lever, false);
         }
