@@ -166,11 +166,11 @@ public final class AverageTest {
 
     /** Averages with long numerators, whose products would leave a long. */
     private static void promise20CloseAverages() {
-        FlashRatchet wheel = wheelOf(4, "A:18,28,37,46;B:82,71,64,19;C:91,17,36,52");
         Model model = new Model();
         model.begin(4);
         model.load("A:18,28,37,46;B:82,71,64,19;C:91,17,36,52");
         for (int one = 85; one < 256; one++) {
+            FlashRatchet wheel = wheelOf(4, "A:18,28,37,46;B:82,71,64,19;C:91,17,36,52");
             for (int other = 86; other < 256; other += 5) {
                 if (Model.isProgram(one) && Model.isProgram(other)) {
                     Check.due("compare(" + one + ", " + other + ")", wheel.compare(one, other), model.compare(one, other));

@@ -8,8 +8,24 @@ final class Check {
 
     private static int wrong = 0;
     private static int checked = 0;
+    private static String subject = "";
 
     private Check() {
+    }
+
+    /** Runs a test that says what it is about; it has to check something, and nothing it calls may throw by surprise. */
+    static void about(String newSubject, Runnable test) {
+        subject = newSubject + ": ";
+        int before = checked;
+        try {
+            test.run();
+        } catch (RuntimeException thrown) {
+            tell("the test ended with " + thrown);
+        }
+        if (checked == before) {
+            tell("the test checked nothing");
+        }
+        subject = "";
     }
 
     static void due(String call, long got, long want) {
@@ -65,7 +81,7 @@ final class Check {
     private static void tell(String message) {
         wrong++;
         if (wrong <= 50) {
-            System.out.println("  " + message);
+            System.out.println("  " + subject + message);
         }
     }
 

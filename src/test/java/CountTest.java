@@ -83,7 +83,7 @@ public final class CountTest {
     }
 
     /** The digest as the document lists it, made of the other calls. */
-    private static long listed(FlashRatchet wheel, String buffer) {
+    static long listed(FlashRatchet wheel, String buffer) {
         long hash = 2029;
         for (int what = 0; what <= 9; what++) {
             hash = mix(hash, wheel.count(what));

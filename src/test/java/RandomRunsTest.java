@@ -2,13 +2,15 @@ import java.util.function.LongSupplier;
 
 /** Long runs of calls, drawn by a fixed rule, against the model; right arguments and, now and then, wrong ones. */
 public final class RandomRunsTest {
-    private static final int RUNS = 90;
-    private static final int CALLS = 300;
+    private static final int RUNS = 420;
+    /** No call() makes more than 170 calls of the wheel, and the document promises nothing behind the 512th. */
+    private static final int CALLS_TO_BEGIN_WITH = 512 - 170;
 
     private final FlashRatchet wheel = new FlashRatchet();
     private final Model model = new Model();
     private final String name;
     private long dice;
+    private int calls;
 
     private RandomRunsTest(int run) {
         name = "run " + run + ": ";
@@ -22,7 +24,7 @@ public final class RandomRunsTest {
             if (run % 3 == 1 && run % 2 == 1) {
                 test.setOutParadox();
             }
-            for (int call = 0; call < CALLS; call++) {
+            while (test.calls <= CALLS_TO_BEGIN_WITH) {
                 test.call();
             }
         }
@@ -88,8 +90,10 @@ public final class RandomRunsTest {
     /** The exception that is due, or null, and then the model's answer. */
     private void due(String call, Class<?> exception, LongSupplier calling, LongSupplier told) {
         if (exception != null) {
+            calls += 3;
             Check.dueThrow(name + call, wheel, exception, calling);
         } else {
+            calls++;
             Check.due(name + call, calling.getAsLong(), told.getAsLong());
         }
     }
@@ -281,6 +285,7 @@ public final class RandomRunsTest {
         int at = about(0, model.positions - 1);
         due("table(" + lever + ", " + at + ")", indexUnless(isIn(lever, 0, 2) && isPosition(at)),
                 () -> wheel.table(lever, at), () -> model.table(lever, at));
+        calls++;
         Check.due(name + "meanGain()", wheel.meanGain(), model.meanGain());
     }
 }

@@ -45,16 +45,16 @@ public final class TextTest {
     }
 
     private static void promise11FirstError() {
-        FlashRatchet wheel = new FlashRatchet();
         String[] beginnings = {"", "A", "B:", "C:0", "A:91", "A:00,", "A:55,19,82", "A:55,19,82;", "P", "P:", "P:A",
             "P:CCCC", "P:A;P:B;C:00,00,00;A", "A:90,09,00"};
         for (String beginning : beginnings) {
-            dueError(wheel, beginning, beginning.length());
+            dueError(new FlashRatchet(), beginning, beginning.length());
         }
         String[] faulty = {"D", "a", ":", ";", "@", "p", "1", "AA", "A;", "PA", "P::", "A:A", "A:/", "A:0:", "A:;", "A:92",
             "A:56", "A:00;", "A:000", "A:00,,", "A:00,00,00,", "A:00,00,000", "A:00,00,00;;", "A:00,00,00;D", "P:;",
             "P:D", "P:P", "P:1", "P:A,", "P:A:", "P:CCCCC", "P:CCCCA", "P:CCCC,", "P:A;;", "A:-", "A:00,00;"};
         for (String text : faulty) {
+            FlashRatchet wheel = new FlashRatchet();
             dueError(wheel, text, text.length() - 1);
             dueError(wheel, text + "A", text.length() - 1);
             if (text.length() < 50) {
@@ -62,8 +62,8 @@ public final class TextTest {
             }
         }
         String longText = "P:ABCA;A:19,28,37;P:B;B:46,55,64;P:C;C:73,82,91;P:A;A:00,00,0";
-        dueError(wheel, longText.substring(0, 60), 60);
-        dueError(wheel, longText.substring(0, 59) + "x", 59);
+        dueError(new FlashRatchet(), longText.substring(0, 60), 60);
+        dueError(new FlashRatchet(), longText.substring(0, 59) + "x", 59);
     }
 
     private static void promise11OtherWheels() {
