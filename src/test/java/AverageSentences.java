@@ -55,6 +55,7 @@ final class AverageSentences {
         String what = "what: 0: the numerator; 1: the denominator; both are 0 if the program has no average";
         Sentence.test("Promise 17", what, AverageSentences::partsOfAnAverage);
         Sentence.test("Promise 17", what, AverageSentences::partsOfNoAverage);
+        Sentence.test("Promise 17", what, AverageSentences::noAverageBehindOneThatThereIs);
         Sentence.namesNoBoundary("Promise 17", "Returns the part.");
         String argument = "Throws IllegalArgumentException if program is not the number of a program, or what is not 0 or 1";
         Sentence.test("Promise 17", argument, AverageSentences::averageOfNoProgram);
@@ -63,8 +64,9 @@ final class AverageSentences {
                 AverageSentences::shareOfAPositionThatIsLeftForEver);
         Sentence.test("Promise 18", PROGRAM, AverageSentences::sharesOfAllPrograms);
         Sentence.test("Promise 18", "position: a position", AverageSentences::firstAndLastPositionOfAShare);
-        Sentence.test("Promise 18", "what: 0: the numerator; 1: the denominator; both are 0 if there are several classes",
-                AverageSentences::partsOfNoShare);
+        String parts = "what: 0: the numerator; 1: the denominator; both are 0 if there are several classes";
+        Sentence.test("Promise 18", parts, AverageSentences::partsOfNoShare);
+        Sentence.test("Promise 18", parts, AverageSentences::noShareBehindOneThatThereIs);
         Sentence.namesNoBoundary("Promise 18", "Returns the part.");
         Sentence.test("Promise 18", "Throws IndexOutOfBoundsException if the position does not exist",
                 AverageSentences::noSuchPositionOfAShare);
@@ -131,6 +133,7 @@ final class AverageSentences {
         Sentence.test("Promise 22", paradox, AverageSentences::oneHasNoAverage);
         Sentence.test("Promise 22", paradox, AverageSentences::onlyLeversThatAreIn);
         Sentence.test("Promise 22", paradox, AverageSentences::theBestIsFair);
+        Sentence.test("Promise 22", paradox, AverageSentences::theBestWinsAlmostNothing);
         Sentence.test("Promise 22", paradox, AverageSentences::onlyProgramsOfFourLeversWin);
         Sentence.test("Promise 22", paradox, AverageSentences::oneLeverAlone);
         Sentence.test("Promise 22", paradox, AverageSentences::noLeverIsIn);
@@ -479,6 +482,15 @@ final class AverageSentences {
         }
     }
 
+    private static void noAverageBehindOneThatThereIs() {
+        FlashRatchet wheel = Wheels.forwardBackStay();
+        dueAverage(wheel, "A", 1, 1);
+        dueAverage(wheel, "AA", 0, 0);
+        dueAverage(wheel, "AAC", 0, 0);
+        dueAverage(wheel, "ACC", 1, 3);
+        dueAverage(wheel, "AAAA", 0, 0);
+    }
+
     private static void averageOfNoProgram() {
         for (int wrong : Wheels.noPrograms()) {
             Refused.due("average(" + wrong + ", 0)", Check.ARGUMENT, wheel -> wheel.average(wrong, 0));
@@ -527,6 +539,16 @@ final class AverageSentences {
                 dueShare(wheel, "A", position, 0, 0);
                 dueShare(wheel, "CCCC", position, 0, 0);
             }
+        }
+    }
+
+    private static void noShareBehindOneThatThereIs() {
+        FlashRatchet wheel = Wheels.forwardBackStay();
+        for (int position = 0; position <= 3; position++) {
+            dueShare(wheel, "A", position, 1, 4);
+            dueShare(wheel, "AA", position, 0, 0);
+            dueAverage(wheel, "AAA", 1, 1);
+            dueShare(wheel, "AAC", position, 0, 0);
         }
     }
 
@@ -885,6 +907,13 @@ final class AverageSentences {
         Check.dueThat("A loses, B loses", wheel.average(1, 0) < 0 && wheel.average(2, 0) < 0);
         dueBest(wheel, 3, number("AB"), 0, 1);
         dueParadox("AB is fair", wheel, 0);
+    }
+
+    private static void theBestWinsAlmostNothing() {
+        FlashRatchet wheel = Wheels.of(2, "A:43,10;B:20,24");
+        wheel.gear(2, false);
+        dueBest(wheel, 3, number("AB"), 1, 240);
+        dueParadox("AB wins 1/240", wheel, 1);
     }
 
     private static void onlyProgramsOfFourLeversWin() {

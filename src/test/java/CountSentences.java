@@ -257,7 +257,7 @@ final class CountSentences {
         }
     }
 
-    /** Worked out by hand's rules outside of this program: 44 values, most of them 0. */
+    /** Worked out outside of this program, from the document's list: 43 values, most of them 0. */
     private static void digestOfANewObject() {
         Check.due("digest()", new FlashRatchet().digest(), 5101186693590766483L);
     }

@@ -43,6 +43,7 @@ final class TextSentences {
         Sentence.test("Input text", error, TextSentences::allCharactersAtTheSecondDigit);
         Sentence.test("Input text", error, TextSentences::allCharactersBehindAPair);
         Sentence.test("Input text", error, TextSentences::allCharactersInAProgram);
+        Sentence.test("Input text", error, TextSentences::anErrorAtEachPlace);
         Sentence.test("Input text", error, TextSentences::noRoomLeftIsNoError);
     }
 
@@ -55,6 +56,7 @@ final class TextSentences {
         Sentence.test("Exceptions", "If several exceptions apply, the one that is named first in the throws clause is thrown.",
                 TextSentences::noCharacterCodeForAFullBuffer);
         Sentence.test("Promise 10", "Clears the buffer.", TextSentences::nothingIsLeftInTheBuffer);
+        Sentence.test("Promise 10", "Clears the buffer.", TextSentences::nothingIsLeftBehindAShorterText);
         Sentence.test("Promise 10", "Returns the length that it had.", TextSentences::lengthsOfTheEmptyAndTheFullBuffer);
     }
 
@@ -305,6 +307,14 @@ final class TextSentences {
         dueOnly(3, "P:CBAC", ";");
     }
 
+    private static void anErrorAtEachPlace() {
+        for (int place = 0; place < 60; place++) {
+            String text = FULL.substring(0, place) + "!" + FULL.substring(place + 1);
+            dueError(3, text, place);
+            dueNoText(3, text);
+        }
+    }
+
     private static void noRoomLeftIsNoError() {
         String before = "P:A;".repeat(13);
         for (String end : new String[] {"P:AAAA;A", "P:AAAA;P", "P:AAA;A:", "A:00,00,", "P:AA;A:1", "P:A;P:A;"}) {
@@ -371,6 +381,18 @@ final class TextSentences {
             Check.due(start + ", firstError()", wheel.firstError(), 0);
             Refused.dueException(start + ", load()", wheel, Check.ARGUMENT, FlashRatchet::load);
             Check.due(start + ", append()", wheel.append('A'), 1);
+        }
+    }
+
+    private static void nothingIsLeftBehindAShorterText() {
+        FlashRatchet wheel = new FlashRatchet();
+        for (String before : new String[] {"P:CBA;P:A", "P:C;;", "P:C!", "P:CCCCC"}) {
+            Check.append(wheel, before);
+            wheel.clearBuffer();
+            Check.append(wheel, "P:C");
+            Check.due("firstError() of P:C behind " + before, wheel.firstError(), 3);
+            Check.due("load() of P:C behind " + before, wheel.load(), 1);
+            Check.due("the program of P:C behind " + before, wheel.count(2), 3);
         }
     }
 
