@@ -581,14 +581,17 @@ final class SettingSentences {
     }
 
     private static void aMillionTicksAndOneMore() {
+        for (int fewer = 0; fewer <= 1; fewer++) {
+            FlashRatchet wheel = afterMostTicksBut(fewer);
+            int tooMany = fewer + 1;
+            Check.due("ticks", wheel.count(6), 1000000 - fewer);
+            Refused.dueException("to 1000001 ticks", wheel, Check.STATE, each -> each.run(tooMany));
+            Refused.dueException("500 ticks more", wheel, Check.STATE, each -> each.run(500));
+            Check.dueThat("something has changed", Tour.of(wheel).equals(Tour.of(afterMostTicksBut(fewer))));
+        }
         FlashRatchet wheel = afterMostTicksBut(1);
-        Check.dueThrow("to 1000001 ticks", wheel, Check.STATE, () -> wheel.run(2));
-        Check.dueThrow("to 1000499 ticks", wheel, Check.STATE, () -> wheel.run(500));
         wheel.run(1);
-        Check.due("ticks", wheel.count(6), 1000000);
-        Check.dueThrow("one more", wheel, Check.STATE, () -> wheel.run(1));
-        FlashRatchet other = afterMostTicksBut(0);
-        Check.due("ticks by a last call of 500", other.count(6), 1000000);
+        Check.due("the last tick that is taken", wheel.count(6), 1000000);
     }
 
     private static void aMillionTicksAnewAfterRestart() {
@@ -601,7 +604,8 @@ final class SettingSentences {
     private static void aRunWithWrongTicksBeyondTheMost() {
         FlashRatchet wheel = afterMostTicksBut(0);
         for (int wrong : Wheels.outside(1, 500)) {
-            Check.dueThrow("run(" + wrong + ")", wheel, Check.ARGUMENT, () -> wheel.run(wrong));
+            Refused.dueException("run(" + wrong + ")", wheel, Check.ARGUMENT, each -> each.run(wrong));
         }
+        Check.dueThat("something has changed", Tour.of(wheel).equals(Tour.of(afterMostTicksBut(0))));
     }
 }
