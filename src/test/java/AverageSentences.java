@@ -35,7 +35,7 @@ final class AverageSentences {
         Sentence.test("Averages", "If there is exactly one, the shares of the positions are the numbers, 0 or more and with the "
                 + "sum 1, for which the following holds: the share of each position is the sum, over all positions, of their "
                 + "shares times the chance with which this position follows them.", AverageSentences::sharesByTheirEquations);
-        Sentence.namesNoBoundary("Averages", "(There is exactly one such solution.)");
+        Sentence.test("Averages", "(There is exactly one such solution.)", AverageSentences::asManyFreeSharesAsClasses);
         String average = "The average of the program is the sum, over all positions, of their shares times the mean gain of a "
                 + "round that begins there, divided by the number of ticks of a round.";
         Sentence.test("Averages", average, AverageSentences::averagesByTheirDefinition);
@@ -56,7 +56,7 @@ final class AverageSentences {
         Sentence.test("Promise 17", what, AverageSentences::partsOfAnAverage);
         Sentence.test("Promise 17", what, AverageSentences::partsOfNoAverage);
         Sentence.test("Promise 17", what, AverageSentences::noAverageBehindOneThatThereIs);
-        Sentence.namesNoBoundary("Promise 17", "Returns the part.");
+        Sentence.test("Promise 17", "Returns the part.", AverageSentences::partsOfAnAverageBeyondAnInt);
         String argument = "Throws IllegalArgumentException if program is not the number of a program, or what is not 0 or 1";
         Sentence.test("Promise 17", argument, AverageSentences::averageOfNoProgram);
         Sentence.test("Promise 17", argument, AverageSentences::noSuchPartOfAnAverage);
@@ -67,7 +67,7 @@ final class AverageSentences {
         String parts = "what: 0: the numerator; 1: the denominator; both are 0 if there are several classes";
         Sentence.test("Promise 18", parts, AverageSentences::partsOfNoShare);
         Sentence.test("Promise 18", parts, AverageSentences::noShareBehindOneThatThereIs);
-        Sentence.namesNoBoundary("Promise 18", "Returns the part.");
+        Sentence.test("Promise 18", "Returns the part.", AverageSentences::partsOfSharesBeyondAnInt);
         Sentence.test("Promise 18", "Throws IndexOutOfBoundsException if the position does not exist",
                 AverageSentences::noSuchPositionOfAShare);
         Sentence.test("Promise 18", argument, AverageSentences::shareOfNoProgram);
@@ -77,7 +77,8 @@ final class AverageSentences {
     }
 
     private static void promises19And20() {
-        Sentence.namesNoBoundary("Promise 19", "Returns the number of classes for a program.");
+        Sentence.test("Promise 19", "Returns the number of classes for a program.",
+                AverageSentences::classesOfTheProgramThatIsAskedFor);
         Sentence.test("Promise 19", PROGRAM, AverageSentences::classesOfAllPrograms);
         Sentence.test("Promise 19", "Returns the number.", AverageSentences::oneClassToAsManyAsPositions);
         Sentence.test("Promise 19", "Throws IllegalArgumentException if program is not the number of a program",
@@ -111,7 +112,7 @@ final class AverageSentences {
         Sentence.test("The best program", best, AverageSentences::ofEqualOnesTheShortest);
         Sentence.test("The best program", best, AverageSentences::ofEqualOnesOfOneLengthTheLowest);
         Sentence.test("The best program", best, AverageSentences::aLongerOneOnlyIfItIsBetter);
-        Sentence.namesNoBoundary("Promise 21", "Returns something of the best program.");
+        Sentence.test("Promise 21", "Returns something of the best program.", AverageSentences::allOfOneAndTheSameProgram);
         Sentence.test("Promise 21", "most: the greatest length of programs that are considered, 1 to 3",
                 AverageSentences::lengthsFrom1To3);
         Sentence.test("Promise 21", "what: 0: its number; 1: the numerator, 2: the denominator of its average",
@@ -124,7 +125,8 @@ final class AverageSentences {
     }
 
     private static void promise22() {
-        Sentence.namesNoBoundary("Promise 22", "Tells whether levers together do what none of them does alone.");
+        Sentence.test("Promise 22", "Tells whether levers together do what none of them does alone.",
+                AverageSentences::severalLeversAreNeededToWin);
         String paradox = "Returns 1 if each program that consists of one lever that is geared in has an average that is less "
                 + "than 0, and the best program with a length of at most 3 has an average that is greater than 0; otherwise 0 "
                 + "(also if no lever is geared in).";
@@ -347,6 +349,49 @@ final class AverageSentences {
         Check.due("the sum of all shares by " + program + " against 1", all.order(Model.Ratio.ONE), 0);
     }
 
+    /** The equations leave a share free for each class, and none but the sum's for one class alone. */
+    private static void asManyFreeSharesAsClasses() {
+        forDrawnWheels(30, (wheel, program) -> {
+            int free = wheel.count(0) - equationsThatCount(chances(wheel, program.length()), Wheels.tenToThe(program.length()));
+            dueClasses(wheel, program, free);
+        });
+    }
+
+    /** How many of the equations do not follow from the others. */
+    private static int equationsThatCount(long[][] chances, long certain) {
+        int size = chances.length;
+        Model.Ratio[][] lines = new Model.Ratio[size][size];
+        for (int to = 0; to < size; to++) {
+            for (int from = 0; from < size; from++) {
+                lines[to][from] = Model.Ratio.of(chances[from][to] - (from == to ? certain : 0), certain);
+            }
+        }
+        int count = 0;
+        for (int column = 0; column < size; column++) {
+            count += clearColumn(lines, column, count) ? 1 : 0;
+        }
+        return count;
+    }
+
+    /** Takes a line that has something in the column from all lines below it, and puts it above them. */
+    private static boolean clearColumn(Model.Ratio[][] lines, int column, int above) {
+        for (int line = above; line < lines.length; line++) {
+            if (lines[line][column].order(Model.Ratio.ZERO) != 0) {
+                Model.Ratio[] taken = lines[line];
+                lines[line] = lines[above];
+                lines[above] = taken;
+                for (int below = above + 1; below < lines.length; below++) {
+                    Model.Ratio factor = lines[below][column].over(taken[column]);
+                    for (int place = 0; place < taken.length; place++) {
+                        lines[below][place] = lines[below][place].minus(factor.times(taken[place]));
+                    }
+                }
+                return true;
+            }
+        }
+        return false;
+    }
+
     private static void averagesByTheirDefinition() {
         forDrawnWheels(30, (wheel, program) -> {
             if (wheel.classes(number(program)) == 1) {
@@ -491,6 +536,11 @@ final class AverageSentences {
         dueAverage(wheel, "AAAA", 0, 0);
     }
 
+    private static void partsOfAnAverageBeyondAnInt() {
+        FlashRatchet wheel = Wheels.ofNumbers(4, 500, 103, 702, 305, 100, 101, 700, 700, 305, 900, 1000, 701);
+        dueAverage(wheel, "CBAB", -4490516673977L, 14618177637460L);
+    }
+
     private static void averageOfNoProgram() {
         for (int wrong : Wheels.noPrograms()) {
             Refused.due("average(" + wrong + ", 0)", Check.ARGUMENT, wheel -> wheel.average(wrong, 0));
@@ -552,6 +602,14 @@ final class AverageSentences {
         }
     }
 
+    private static void partsOfSharesBeyondAnInt() {
+        FlashRatchet wheel = Wheels.ofNumbers(4, 801, 1000, 303, 900, 403, 203, 1000, 801, 1000, 101, 100, 3);
+        dueShare(wheel, "BABC", 0, 151529551400L, 1501970193411L);
+        dueShare(wheel, "BABC", 1, 518430262300L, 1501970193411L);
+        dueShare(wheel, "BABC", 2, 348740793611L, 1501970193411L);
+        dueShare(wheel, "BABC", 3, 483269586100L, 1501970193411L);
+    }
+
     private static void noSuchPositionOfAShare() {
         for (int wrong : Wheels.outside(0, 3)) {
             Refused.due("share(1, " + wrong + ", 0)", Check.INDEX, wheel -> wheel.share(1, wrong, 0));
@@ -587,6 +645,17 @@ final class AverageSentences {
                 steps += letter == 'A' ? 1 : letter == 'B' ? 3 : 0;
             }
             dueClasses(wheel, program, steps % 4 == 0 ? 4 : steps % 4 == 2 ? 2 : 1);
+        }
+    }
+
+    private static void classesOfTheProgramThatIsAskedFor() {
+        for (String present : new String[] {"A", "C", "AAAA", "CBA"}) {
+            FlashRatchet wheel = Wheels.forwardBackStay();
+            wheel.setProgram(number(present));
+            wheel.run(3);
+            dueClasses(wheel, "A", 1);
+            dueClasses(wheel, "AA", 2);
+            dueClasses(wheel, "AAAA", 4);
         }
     }
 
@@ -743,14 +812,18 @@ final class AverageSentences {
 
     private static void theBestOfAll() {
         for (int drawn = 0; drawn < 600; drawn++) {
-            FlashRatchet wheel = Wheels.drawn(drawn);
-            for (int most = 1; most <= 3; most++) {
-                String best = bestOf(Wheels.drawn(drawn), most);
-                if (best == null) {
-                    dueBest(wheel, most, -1, -1, -1);
-                } else {
-                    dueBest(wheel, most, number(best), wheel.average(number(best), 0), wheel.average(number(best), 1));
-                }
+            dueBestOfAll(Wheels.drawn(drawn));
+            dueBestOfAll(Wheels.drawnFull(drawn));
+        }
+    }
+
+    private static void dueBestOfAll(FlashRatchet wheel) {
+        for (int most = 1; most <= 3; most++) {
+            String best = bestOf(wheel, most);
+            if (best == null) {
+                dueBest(wheel, most, -1, -1, -1);
+            } else {
+                dueBest(wheel, most, number(best), wheel.average(number(best), 0), wheel.average(number(best), 1));
             }
         }
     }
@@ -847,6 +920,21 @@ final class AverageSentences {
         }
     }
 
+    private static void allOfOneAndTheSameProgram() {
+        for (Start start : Start.values()) {
+            FlashRatchet wheel = start.wheel();
+            for (int most = 1; most <= 3; most++) {
+                int best = (int) wheel.best(most, 0);
+                if (best == FlashRatchet.NONE) {
+                    dueBest(wheel, most, FlashRatchet.NONE, FlashRatchet.NONE, FlashRatchet.NONE);
+                } else {
+                    Check.dueThat(best + " is no program of at most " + most, best < Wheels.power(4, most));
+                    dueBest(wheel, most, best, wheel.average(best, 0), wheel.average(best, 1));
+                }
+            }
+        }
+    }
+
     private static void noSuchBestProgram() {
         for (int wrong : Wheels.outside(1, 3)) {
             Refused.due("best(" + wrong + ", 0)", Check.ARGUMENT, wheel -> wheel.best(wrong, 0));
@@ -870,6 +958,30 @@ final class AverageSentences {
         Wheels.setAll(wheel, 2, 1, 0);
         dueParadox("three levers", wheel, 1);
         dueParadox("all lose, and together, too", Wheels.of(3, "A:10,10,10;B:20,20,20;C:30,30,30"), 0);
+    }
+
+    private static void severalLeversAreNeededToWin() {
+        int paradoxes = 0;
+        for (int drawn = 0; drawn < 3000; drawn++) {
+            FlashRatchet wheel = Wheels.drawnFull(drawn);
+            if (wheel.paradox() == 1) {
+                paradoxes++;
+                dueSeveralLevers("wheel " + drawn, wheel);
+            }
+        }
+        Check.dueThat("only " + paradoxes + " paradoxes were drawn", paradoxes > 10);
+    }
+
+    private static void dueSeveralLevers(String when, FlashRatchet wheel) {
+        int best = (int) wheel.best(3, 0);
+        for (String alone : new String[] {"A", "B", "C", "AA", "BB", "CC", "AAA", "BBB", "CCC"}) {
+            Check.dueThat("the best program of " + when + " is " + alone, best != number(alone));
+        }
+        for (int lever = 0; lever <= 2; lever++) {
+            if ((wheel.count(7) >> lever & 1) == 1) {
+                Check.due(when + ", the best one against lever " + lever, wheel.compare(best, lever + 1), 1);
+            }
+        }
     }
 
     private static void oneIsFair() {
@@ -951,13 +1063,17 @@ final class AverageSentences {
 
     private static void paradoxesByTheirDefinition() {
         for (int drawn = 0; drawn < 2000; drawn++) {
-            FlashRatchet wheel = Wheels.drawn(drawn);
-            boolean isParadox = wheel.count(7) != 0 && wheel.best(3, 0) != FlashRatchet.NONE && wheel.best(3, 1) > 0;
-            for (int lever = 0; lever <= 2; lever++) {
-                boolean isIn = (wheel.count(7) >> lever & 1) == 1;
-                isParadox &= !isIn || wheel.average(lever + 1, 0) < 0;
-            }
-            dueParadox("wheel " + drawn, wheel, isParadox ? 1 : 0);
+            dueParadoxByItsDefinition("wheel " + drawn, Wheels.drawn(drawn));
+            dueParadoxByItsDefinition("full wheel " + drawn, Wheels.drawnFull(drawn));
         }
+    }
+
+    private static void dueParadoxByItsDefinition(String when, FlashRatchet wheel) {
+        boolean isParadox = wheel.count(7) != 0 && wheel.best(3, 0) != FlashRatchet.NONE && wheel.best(3, 1) > 0;
+        for (int lever = 0; lever <= 2; lever++) {
+            boolean isIn = (wheel.count(7) >> lever & 1) == 1;
+            isParadox &= !isIn || wheel.average(lever + 1, 0) < 0;
+        }
+        dueParadox(when, wheel, isParadox ? 1 : 0);
     }
 }

@@ -24,7 +24,7 @@ final class ChanceSentences {
         Sentence.test("Promise 13", what, ChanceSentences::thePresentSituationDoesNotComeAgain);
         Sentence.test("Promise 13", what, ChanceSentences::longWayToTheCycle);
         Sentence.test("Promise 13", what, ChanceSentences::gainsOfCycles);
-        Sentence.namesNoBoundary("Promise 13", "Returns the number.");
+        Sentence.test("Promise 13", "Returns the number.", ChanceSentences::inAnyOrder);
         Sentence.test("Promise 13", "Throws IllegalArgumentException if what is not 0 to 2", ChanceSentences::noSuchCycle);
     }
 
@@ -139,6 +139,17 @@ final class ChanceSentences {
         Check.due(when + ", cycle(0)", wheel.cycle(0), lead);
         Check.due(when + ", cycle(1)", wheel.cycle(1), period);
         Check.due(when + ", cycle(2)", wheel.cycle(2), gain);
+    }
+
+    /** The numbers of each start are worked out outside of this program. */
+    private static void inAnyOrder() {
+        int[][] due = {{0, 1000, 0}, {0, 3000, 532}, {0, 3000, 48}, {0, 1000, 240}};
+        for (Start start : Start.values()) {
+            FlashRatchet wheel = start.wheel();
+            for (int what : new int[] {2, 1, 0, 1, 2, 0, 0, 2}) {
+                Check.due(start + ", cycle(" + what + ")", wheel.cycle(what), due[start.ordinal()][what]);
+            }
+        }
     }
 
     private static void thePositionBelongsToASituation() {

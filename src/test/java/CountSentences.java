@@ -13,7 +13,7 @@ final class CountSentences {
     }
 
     private static void promises23And24() {
-        Sentence.namesNoBoundary("Promise 23", "Returns a number.");
+        Sentence.test("Promise 23", "Returns a number.", CountSentences::allNumbersOfAllStarts);
         String what = "what: 0: positions; 1: the present position; 2: the number of the present program; 3: the index in it; 4: "
                 + "the seed; 5: the total gain; 6: the ticks; 7: levers that are geared in, as a bit mask; 8: positions with a "
                 + "pawl that is set, as a bit mask; 9: the length of the present program";
@@ -21,7 +21,7 @@ final class CountSentences {
         Sentence.test("Promise 23", what, CountSentences::programsAndIndexes);
         Sentence.test("Promise 23", what, CountSentences::seedsGainsAndTicks);
         Sentence.test("Promise 23", what, CountSentences::bitMasks);
-        Sentence.namesNoBoundary("Promise 23", "Returns the number.");
+        Sentence.test("Promise 23", "Returns the number.", CountSentences::askingForNumbersChangesNothing);
         Sentence.test("Promise 23", "Throws IllegalArgumentException if what is not 0 to 9", CountSentences::noSuchCount);
         Sentence.test("Promise 24", "Returns the numbers of a lever for a position.", CountSentences::theNumbersThatWereSet);
         Sentence.test("Promise 24", "lever: its number", CountSentences::firstAndLastLever);
@@ -49,27 +49,49 @@ final class CountSentences {
                 + "what) for 0 to 2; classes of the present program, its average for 0 and 1, and for each position its share "
                 + "for 0 and 1; best(2, what) for 0 to 2; paradox; the length of the buffer and each of its character codes.",
                 CountSentences::digestsOfTheEmptyAndTheFullBuffer);
-        Sentence.namesNoBoundary("Promise 26", "Returns the hash.");
+        Sentence.test("Promise 26", "Returns the hash.", CountSentences::hashesOfAllStarts);
     }
 
     private static void theWholeObject() {
         Sentence.test("Exceptions", "A call that throws an exception changes nothing.",
                 CountSentences::manyRefusedCallsOneAfterAnother);
-        Sentence.namesNoBoundary("What it is", "A ratchet wheel that is driven by levers: each lever has a table of chances for "
+        Sentence.test("What it is", "A ratchet wheel that is driven by levers: each lever has a table of chances for "
                 + "moving the wheel back or forward at each position, a program tells which lever is used at which tick, pawls "
                 + "hold the wheel, levers are geared out; runs by drawn numbers and their cycles, exact chances, exact averages "
-                + "in the long run, and the best program.");
+                + "in the long run, and the best program.", CountSentences::aWheelFromItsLeversToItsBestProgram);
         String calls = "An object is used for at most 512 calls after it has been made; what later calls answer is free.";
         Sentence.test("What it is", calls, CountSentences::theLastOf512Calls);
         Sentence.test("What it is", calls, CountSentences::theLastOf512RefusedCalls);
-        Sentence.namesNoBoundary("Not promised", "How the state is held inside the object is free, as are the speed of each "
+        Sentence.leavesFree("Not promised", "How the state is held inside the object is free, as are the speed of each "
                 + "call, the text of toString and the behaviour of equals and hashCode.");
-        Sentence.namesNoBoundary("Not promised", "Use of one object from several threads at once is not promised to be safe.");
-        Sentence.namesNoBoundary("Not promised", "Nothing is promised beyond the answers and state changes described above, and "
+        Sentence.leavesFree("Not promised", "Use of one object from several threads at once is not promised to be safe.");
+        Sentence.leavesFree("Not promised", "Nothing is promised beyond the answers and state changes described above, and "
                 + "nothing about an object after its 512th call.");
     }
 
     // ---- promises 23 and 24
+
+    /** Worked out outside of this program, as are the hashes below. */
+    private static void allNumbersOfAllStarts() {
+        int[][] due = {{3, 0, 1, 0, 0, 0, 0, 7, 0, 1}, {2, 1, 39, 1, 25, 0, 4, 3, 2, 3}, {3, 2, 26, 2, 499, 21, 500, 7, 0, 3},
+            {4, 0, 219, 3, 89, 1, 7, 7, 9, 4}};
+        for (Start start : Start.values()) {
+            FlashRatchet wheel = start.wheel();
+            for (int what = 0; what <= 9; what++) {
+                Check.due(start + ", count(" + what + ")", wheel.count(what), due[start.ordinal()][what]);
+            }
+        }
+    }
+
+    private static void askingForNumbersChangesNothing() {
+        for (Start start : Start.values()) {
+            FlashRatchet wheel = start.wheel();
+            for (int what = 9; what >= 0; what--) {
+                wheel.count(what);
+            }
+            Check.dueThat("something has changed, " + start, Tour.of(wheel).equals(Tour.of(start.wheel())));
+        }
+    }
 
     private static void positionsOfTheWheel() {
         FlashRatchet wheel = new FlashRatchet();
@@ -262,6 +284,13 @@ final class CountSentences {
         Check.due("digest()", new FlashRatchet().digest(), 5101186693590766483L);
     }
 
+    private static void hashesOfAllStarts() {
+        long[] due = {5101186693590766483L, -7665939312532998857L, 1442898651490066863L, 6824427239215888686L};
+        for (Start start : Start.values()) {
+            Check.due(start + ", digest()", start.wheel().digest(), due[start.ordinal()]);
+        }
+    }
+
     private static void digestsOfAllStarts() {
         String[] buffers = {"", "A:12,3", "B:11,22,33;P:CA", "C:09,18,27,36;B:45,54,63,72;A:81,90,08,17;B:26,35,44,53;P:CB"};
         for (Start start : Start.values()) {
@@ -354,6 +383,59 @@ final class CountSentences {
             FlashRatchet wheel = start.wheel();
             Check.due(start + ", refused calls", refused(wheel, calls), calls.size());
             Check.dueThat("something has changed, " + start, Tour.of(wheel).equals(Tour.of(start.wheel())));
+        }
+    }
+
+    /** All that the first sentence names, on one wheel; the answers are worked out outside of this program. */
+    private static void aWheelFromItsLeversToItsBestProgram() {
+        FlashRatchet wheel = Wheels.ofNumbers(4, 305, 305, 1000, 305, 600, 601, 602, 603, 10);
+        wheel.setProgram(Wheels.numberOf("AB"));
+        wheel.restart(1, 500);
+        int[] gains = {1, 0, 1, 0};
+        for (int gain : gains) {
+            Check.due("a tick", wheel.run(1), gain);
+            Check.due("A moves forward, B back, to position", wheel.count(1), gain + 1);
+        }
+        Check.due("100 ticks", wheel.run(96), -34);
+        int[] cycle = {0, 1000, -228};
+        for (int what = 0; what <= 2; what++) {
+            Check.due("cycle(" + what + ")", wheel.cycle(what), cycle[what]);
+        }
+        dueChances(wheel);
+        dueAverage("of AB", wheel, -104016, 431395);
+        dueBest("of all levers", wheel, Wheels.numberOf("BC"), 6, 355);
+        wheel.pawl(0, true);
+        wheel.pawl(2, true);
+        dueAverage("of AB with pawls", wheel, 50, 453);
+        dueBest("with pawls", wheel, Wheels.numberOf("ABC"), 104, 855);
+        Check.due("50 ticks with pawls", wheel.run(50), -29);
+        wheel.gear(0, false);
+        dueAverage("of AB without A", wheel, 0, 1);
+        dueBest("without A", wheel, Wheels.numberOf("BBC"), 1612, 20225);
+        Check.due("50 ticks, held by a pawl", wheel.run(50), -29);
+        Check.due("the mean gain", wheel.meanGain(), -29.0 / 200.0);
+    }
+
+    private static void dueChances(FlashRatchet wheel) {
+        int[] chances = {296, 346, 204, 154};
+        for (int position = 0; position <= 3; position++) {
+            Check.due("chance(3, " + position + ")", wheel.chance(3, position), chances[position]);
+        }
+        Check.due("chanceOfGain(3, 0)", wheel.chanceOfGain(3, 0), 526);
+        int[] outcomes = {64362, 19370, 16268};
+        for (int what = 0; what <= 2; what++) {
+            Check.due("game(1, 2, 5, " + what + ")", wheel.game(1, 2, 5, what), outcomes[what]);
+        }
+    }
+
+    private static void dueAverage(String when, FlashRatchet wheel, long above, long below) {
+        Check.due("numerator " + when, wheel.average(Wheels.numberOf("AB"), 0), above);
+        Check.due("denominator " + when, wheel.average(Wheels.numberOf("AB"), 1), below);
+    }
+
+    private static void dueBest(String when, FlashRatchet wheel, long... parts) {
+        for (int what = 0; what <= 2; what++) {
+            Check.due("best(3, " + what + ") " + when, wheel.best(3, what), parts[what]);
         }
     }
 

@@ -23,8 +23,8 @@ final class Sentence {
         Check.about(place + ", \"" + words + "\"", test);
     }
 
-    /** For a sentence that only goes with those around it, and names no boundary that these do not name. */
-    static void namesNoBoundary(String place, String words) {
+    /** For a sentence that no answer could break. */
+    static void leavesFree(String place, String words) {
         QUOTED.add(place + ": " + words);
     }
 

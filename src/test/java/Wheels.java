@@ -132,6 +132,23 @@ final class Wheels {
         return wheel;
     }
 
+    /** A wheel with tables drawn by a fixed rule, hardly a number of them 0: a paradox comes once in some hundred wheels. */
+    static FlashRatchet drawnFull(int number) {
+        FlashRatchet wheel = new FlashRatchet();
+        int positions = 2 + number % 3;
+        wheel.begin(positions);
+        long dice = 97L * number + 11;
+        for (int lever = 0; lever < 3; lever++) {
+            for (int position = 0; position < positions; position++) {
+                dice = roll(dice);
+                int back = below(dice, 11);
+                wheel.setTable(lever, position, back, below(dice >>> 16, 11 - back));
+            }
+        }
+        wheel.gear(number % 5 % 3, number % 5 > 2);
+        return wheel;
+    }
+
     private static long roll(long dice) {
         return dice * 6364136223846793005L + 1442695040888963407L;
     }
